@@ -1075,6 +1075,9 @@ public final class CoinKeeper {
             if (op == 105) {
                 return verifyTop();
             }
+            if (op == 107 || op == 108) {
+                return op == 107 ? toOther() : fromOther();
+            }
             if (op <= 130) {
                 return arrange(op);
             }
@@ -1114,7 +1117,7 @@ public final class CoinKeeper {
             if (op == 109 || op == 110 || op >= 119 && op <= 125) {
                 return 2;
             }
-            return op == 108 || op == 116 ? 0 : 1;
+            return op == 116 ? 0 : 1;
         }
 
         private boolean arrange(int op) {
@@ -1124,13 +1127,6 @@ public final class CoinKeeper {
             int top = height > 0 ? main[height - 1] : FALSE;
             int second = height > 1 ? main[height - 2] : FALSE;
             switch (op) {
-                case 107:
-                    other[otherHeight] = top;
-                    otherHeight++;
-                    height--;
-                    return true;
-                case 108:
-                    return fromOther();
                 case 109:
                     height -= 2;
                     return true;
@@ -1181,6 +1177,16 @@ public final class CoinKeeper {
                 default:
                     return false;
             }
+        }
+
+        private boolean toOther() {
+            if (height < 1) {
+                return false;
+            }
+            height--;
+            other[otherHeight] = main[height];
+            otherHeight++;
+            return true;
         }
 
         private boolean fromOther() {
@@ -1317,17 +1323,15 @@ public final class CoinKeeper {
             height--;
             int place = placeOf(main[height]);
             int length = lengthOf(main[height]);
-            if (op == 168 || op == 169) {
-                sha.once(data, place, length, data, free);
-            }
-            if (op == 170) {
-                sha.twice(data, place, length, data, free);
-            }
             if (op == 166) {
                 ripemd.once(data, place, length, data, free);
+            } else {
+                sha.once(data, place, length, data, free);
             }
             if (op == 169) {
                 ripemd.once(data, free, 32, data, free);
+            } else if (op == 170) {
+                sha.once(data, free, 32, data, free);
             }
             int made = op == 166 || op == 169 ? 20 : 32;
             push(free << 8 | made);
@@ -1413,7 +1417,9 @@ public final class CoinKeeper {
             sha.add(raw, at, layout.txAt[tx + 1]);
             sha.add(ALL, 0, 4);
             sha.finish(data, MESSAGE);
-            sha.once(data, MESSAGE, 32, data, MESSAGE);
+            sha.begin();
+            sha.add(data, MESSAGE, MESSAGE + 32);
+            sha.finish(data, MESSAGE);
         }
     }
 
@@ -1493,7 +1499,16 @@ public final class CoinKeeper {
         }
 
         private void mix() {
-            spread();
+            for (int i = 0; i < 16; i++) {
+                int at = 4 * i;
+                w[i] = chunk[at] << 24 | (chunk[at + 1] & 255) << 16 | (chunk[at + 2] & 255) << 8 | chunk[at + 3] & 255;
+            }
+            for (int i = 16; i < 64; i++) {
+                int x = w[i - 15];
+                int y = w[i - 2];
+                w[i] = w[i - 16] + ((x >>> 7 | x << 25) ^ (x >>> 18 | x << 14) ^ x >>> 3)
+                        + w[i - 7] + ((y >>> 17 | y << 15) ^ (y >>> 19 | y << 13) ^ y >>> 10);
+            }
             int a = state[0];
             int b = state[1];
             int c = state[2];
@@ -1525,19 +1540,6 @@ public final class CoinKeeper {
             state[6] += g;
             state[7] += h;
             filled = 0;
-        }
-
-        private void spread() {
-            for (int i = 0; i < 16; i++) {
-                int at = 4 * i;
-                w[i] = chunk[at] << 24 | (chunk[at + 1] & 255) << 16 | (chunk[at + 2] & 255) << 8 | chunk[at + 3] & 255;
-            }
-            for (int i = 16; i < 64; i++) {
-                int x = w[i - 15];
-                int y = w[i - 2];
-                w[i] = w[i - 16] + ((x >>> 7 | x << 25) ^ (x >>> 18 | x << 14) ^ x >>> 3)
-                        + w[i - 7] + ((y >>> 17 | y << 15) ^ (y >>> 19 | y << 13) ^ y >>> 10);
-            }
         }
     }
 
@@ -2007,7 +2009,6 @@ public final class CoinKeeper {
         private final long[] c = new long[LIMBS];
         private final long[] d = new long[LIMBS];
         private final long[] f = new long[LIMBS];
-        private final long[] g = new long[LIMBS];
 
         /** Whether the bytes are a public key; point becomes it. */
         boolean readKey(byte[] from, int at, int length, Point point) {
@@ -2030,7 +2031,11 @@ public final class CoinKeeper {
             }
             point.becomePlain();
             multiply(point.y, point.y, b);
-            return areSame(a, b);
+            for (int i = 0; i < LIMBS; i++) {
+                a[i] -= b[i];
+            }
+            settle(a);
+            return hasNoBit(a);
         }
 
         private boolean readCoordinate(byte[] from, int at, long[] to) {
@@ -2074,7 +2079,11 @@ public final class CoinKeeper {
             split(number, a);
             multiply(point.z, point.z, b);
             multiply(a, b, a);
-            return areSame(point.x, a);
+            for (int i = 0; i < LIMBS; i++) {
+                a[i] -= point.x[i];
+            }
+            settle(a);
+            return hasNoBit(a);
         }
 
         /** Sizes: x and y up to 9, z up to 2 in all points, before and behind. */
@@ -2112,13 +2121,28 @@ public final class CoinKeeper {
                 }
                 return true;
             }
-            bringTogether(p, q);
+            // x and y of p in a and b, of q in c and d, as they are with the product of both z.
+            multiply(p.z, p.z, f);
+            multiply(q.x, f, c);
+            multiply(f, p.z, f);
+            multiply(q.y, f, d);
+            if (q.isPlain) {
+                System.arraycopy(p.x, 0, a, 0, LIMBS);
+                System.arraycopy(p.y, 0, b, 0, LIMBS);
+            } else {
+                multiply(q.z, q.z, f);
+                multiply(p.x, f, a);
+                multiply(f, q.z, f);
+                multiply(p.y, f, b);
+            }
             for (int i = 0; i < LIMBS; i++) {
                 c[i] -= a[i];
                 d[i] = (minus ? -d[i] : d[i]) - b[i];
             }
-            if (isZero(c)) {
-                p.isNone = !isZero(d);
+            settle(c);
+            if (hasNoBit(c)) {
+                settle(d);
+                p.isNone = !hasNoBit(d);
                 return p.isNone;
             }
             multiply(p.z, c, p.z);
@@ -2142,37 +2166,6 @@ public final class CoinKeeper {
             return true;
         }
 
-        /** x and y of p (in a, b) and q (in c, d), as they are with the product of both z. */
-        private void bringTogether(Point p, Point q) {
-            multiply(p.z, p.z, f);
-            multiply(q.x, f, c);
-            multiply(f, p.z, f);
-            multiply(q.y, f, d);
-            if (q.isPlain) {
-                System.arraycopy(p.x, 0, a, 0, LIMBS);
-                System.arraycopy(p.y, 0, b, 0, LIMBS);
-                return;
-            }
-            multiply(q.z, q.z, f);
-            multiply(p.x, f, a);
-            multiply(f, q.z, f);
-            multiply(p.y, f, b);
-        }
-
-        private boolean areSame(long[] one, long[] two) {
-            for (int i = 0; i < LIMBS; i++) {
-                g[i] = one[i] - two[i];
-            }
-            settle(g);
-            return hasNoBit(g);
-        }
-
-        private boolean isZero(long[] number) {
-            System.arraycopy(number, 0, g, 0, LIMBS);
-            settle(g);
-            return hasNoBit(g);
-        }
-
         private static boolean hasNoBit(long[] number) {
             long bits = 0;
             for (int i = 0; i < LIMBS; i++) {
@@ -2181,16 +2174,10 @@ public final class CoinKeeper {
             return bits == 0;
         }
 
-        /** Makes the number 0 to p - 1, its limbs without sign: two rounds bring it within 2^256, the third carries. */
+        /** Makes the number 0 to p - 1, its limbs without sign. The first round brings it near 2^256, the second below. */
         private static void settle(long[] number) {
-            for (int round = 0; round < 4; round++) {
-                if (round == 3 && !isFromPrimeOn(number)) {
-                    return;
-                }
+            for (int round = 0; round < 2; round++) {
                 long over = number[LIMBS - 1] >> 22;
-                if (round == 3) {
-                    over = 1;
-                }
                 number[LIMBS - 1] &= TOP_LIMB;
                 number[0] += over * 977;
                 number[1] += over << 6;
@@ -2199,15 +2186,20 @@ public final class CoinKeeper {
                     number[i] &= LIMB;
                 }
             }
-            number[LIMBS - 1] &= TOP_LIMB;
-        }
-
-        private static boolean isFromPrimeOn(long[] number) {
-            long ones = LIMB;
+            long ones = number[LIMBS - 1] == TOP_LIMB ? LIMB : 0;
             for (int i = 2; i < LIMBS - 1; i++) {
                 ones &= number[i];
             }
-            return ones == LIMB && number[LIMBS - 1] == TOP_LIMB && number[1] + 64 + (number[0] + 977 >> 26) > LIMB;
+            long low = number[0] + 977;
+            long next = number[1] + 64 + (low >> 26);
+            if (ones == LIMB && next > LIMB) {
+                // It is p or above: what is left without p has two limbs.
+                for (int i = 2; i < LIMBS; i++) {
+                    number[i] = 0;
+                }
+                number[1] = next & LIMB;
+                number[0] = low & LIMB;
+            }
         }
 
         /** to = p q modulo p; to may be one of them. Written out, as nearly all the time of a signature is spent here. */
