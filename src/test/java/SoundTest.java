@@ -1,0 +1,184 @@
+/** Promise 4: what is not sound is answered by 9. */
+public final class SoundTest {
+    private static final Checks CHECKS = new Checks("SoundTest");
+    private static final long MOST = 2100000000000000L;
+    private static final byte[] OTHER = Bytes.many(7, 32);
+
+    public static void main(String[] args) {
+        parts();
+        values();
+        inputs();
+        coinbases();
+        heights();
+        scripts();
+        sigs();
+        locks();
+        CHECKS.close();
+    }
+
+    private static Node.Draft draft() {
+        return Node.genesis().next();
+    }
+
+    /** The answer for a block on the genesis: a TX that spends what is not there is sound and answered by 10. */
+    private static int withTx(Tx tx) {
+        return draft().tx(tx).mined().to(new CoinKeeper());
+    }
+
+    private static int withCoinbase(byte[] script) {
+        Tx tx = new Tx().in(new byte[32], Tx.LAST, script, 0).out(1);
+        return draft().coinbase(tx).mined().to(new CoinKeeper());
+    }
+
+    private static void parts() {
+        CHECKS.equal("sound", withTx(new Tx().in(OTHER, 0).out(1)), 10);
+        CHECKS.equal("no INPUTS", withTx(new Tx().out(1)), 9);
+        CHECKS.equal("no OUTPUTS", withTx(new Tx().in(OTHER, 0)), 9);
+        CHECKS.equal("nothing", withTx(new Tx()), 9);
+        CHECKS.equal("a coinbase without OUTPUTS", draft().coinbase(new Tx().in(new byte[32], Tx.LAST, Bytes.of(81, 0), 0))
+                .mined().to(new CoinKeeper()), 9);
+        CHECKS.equal("a coinbase without INPUTS", draft().coinbase(new Tx().out(1)).mined().to(new CoinKeeper()), 9);
+        CHECKS.equal("no TXS", draft().empty().mined().to(new CoinKeeper()), 9);
+    }
+
+    private static void values() {
+        CHECKS.equal("the most", withTx(new Tx().in(OTHER, 0).out(MOST)), 10);
+        CHECKS.equal("one more", withTx(new Tx().in(OTHER, 0).out(MOST + 1)), 9);
+        CHECKS.equal("none", withTx(new Tx().in(OTHER, 0).out(0)), 10);
+        CHECKS.equal("below 0", withTx(new Tx().in(OTHER, 0).out(-1)), 9);
+        CHECKS.equal("the lowest", withTx(new Tx().in(OTHER, 0).out(Long.MIN_VALUE)), 9);
+        CHECKS.equal("the most in two", withTx(new Tx().in(OTHER, 0).out(MOST - 1).out(1)), 10);
+        CHECKS.equal("more in two", withTx(new Tx().in(OTHER, 0).out(MOST).out(1)), 9);
+        CHECKS.equal("more in many", withTx(new Tx().in(OTHER, 0).out(MOST).out(MOST).out(MOST).out(MOST)), 9);
+        CHECKS.equal("a coinbase with more", draft().coinbase(draft().usualCoinbase(MOST + 1, Tx.ONE)).mined().to(new CoinKeeper()), 9);
+        CHECKS.equal("a coinbase with the most", draft().coinbase(draft().usualCoinbase(MOST, Tx.ONE)).mined().to(new CoinKeeper()), 14);
+    }
+
+    private static void inputs() {
+        byte[] zeros = new byte[32];
+        CHECKS.equal("an INPUT twice", withTx(new Tx().in(OTHER, 3).in(OTHER, 4).in(OTHER, 3).out(1)), 9);
+        CHECKS.equal("two INPUTS of a TX", withTx(new Tx().in(OTHER, 3).in(OTHER, 4).out(1)), 10);
+        CHECKS.equal("an INPUT twice, but of two TXS", draft().tx(new Tx().in(OTHER, 3).out(1)).tx(new Tx().in(OTHER, 3).out(2))
+                .mined().to(new CoinKeeper()), 10);
+        CHECKS.equal("a coinbase's INPUT", withTx(new Tx().in(zeros, Tx.LAST).out(1)), 9);
+        CHECKS.equal("a coinbase's INPUT with another", withTx(new Tx().in(OTHER, 0).in(zeros, Tx.LAST).out(1)), 9);
+        CHECKS.equal("HASH 0 and another index", withTx(new Tx().in(zeros, 0).out(1)), 10);
+        CHECKS.equal("HASH 0 and nearly that index", withTx(new Tx().in(zeros, Tx.LAST - 1).out(1)), 10);
+        CHECKS.equal("that index and another HASH", withTx(new Tx().in(OTHER, Tx.LAST).out(1)), 10);
+        byte[] nearly = new byte[32];
+        nearly[31] = 1;
+        CHECKS.equal("nearly HASH 0", withTx(new Tx().in(nearly, Tx.LAST).out(1)), 10);
+    }
+
+    private static void coinbases() {
+        byte[] zeros = new byte[32];
+        CHECKS.equal("a second coinbase", withTx(draft().usualCoinbase(1, Tx.ONE)), 9);
+        CHECKS.equal("no coinbase", draft().coinbase(new Tx().in(OTHER, 0, Bytes.of(81, 0), 0).out(1)).mined().to(new CoinKeeper()), 9);
+        CHECKS.equal("a coinbase of another index", draft().coinbase(new Tx().in(zeros, 0, Bytes.of(81, 0), 0).out(1))
+                .mined().to(new CoinKeeper()), 9);
+        CHECKS.equal("a coinbase of two INPUTS", draft().coinbase(new Tx().in(zeros, Tx.LAST, Bytes.of(81, 0), 0).in(OTHER, 0).out(1))
+                .mined().to(new CoinKeeper()), 9);
+        CHECKS.equal("a coinbase of its INPUT twice", draft().coinbase(new Tx().in(zeros, Tx.LAST, Bytes.of(81, 0), 0)
+                .in(zeros, Tx.LAST, Bytes.of(81, 0), 0).out(1)).mined().to(new CoinKeeper()), 9);
+        CHECKS.equal("a script of none", withCoinbase(new byte[0]), 9);
+        CHECKS.equal("a script of 1", withCoinbase(Bytes.of(81)), 9);
+        CHECKS.equal("a script of 2", withCoinbase(Bytes.of(81, 0)), 0);
+        CHECKS.equal("a script of 100", withCoinbase(Bytes.join(Bytes.of(81), Bytes.many(97, 99))), 0);
+        CHECKS.equal("a script of 101", withCoinbase(Bytes.join(Bytes.of(81), Bytes.many(97, 100))), 9);
+        CHECKS.equal("another height", withCoinbase(Bytes.of(82, 81)), 9);
+        CHECKS.equal("height 1 by its byte", withCoinbase(Bytes.of(1, 1)), 9);
+        CHECKS.equal("a script that would fail", withCoinbase(Bytes.of(81, 106)), 0);
+        CHECKS.equal("a script that goes beyond", withCoinbase(Bytes.of(81, 75)), 0);
+    }
+
+    private static void heights() {
+        CoinKeeper keeper = new CoinKeeper();
+        Node node = Node.genesis();
+        for (int height = 1; height <= 20; height++) {
+            if (height == 16 || height == 17) {
+                byte[] wrong = height == 16 ? Bytes.of(1, 16, 0) : Bytes.of(97, 0, 0);
+                Tx tx = new Tx().in(new byte[32], Tx.LAST, wrong, 0).out(1);
+                CHECKS.equal("height " + height + " in the other way", node.next().coinbase(tx).mined().to(keeper), 9);
+            }
+            if (height == 18) {
+                Tx tx = new Tx().in(new byte[32], Tx.LAST, Bytes.of(2, 18, 0), 0).out(1);
+                CHECKS.equal("18 in two bytes", node.next().coinbase(tx).mined().to(keeper), 9);
+                tx = new Tx().in(new byte[32], Tx.LAST, Bytes.of(1, 17), 0).out(1);
+                CHECKS.equal("17 for 18", node.next().coinbase(tx).mined().to(keeper), 9);
+                tx = new Tx().in(new byte[32], Tx.LAST, Bytes.of(1, 18), 0).out(1);
+                CHECKS.equal("18 in 2 bytes of script", node.next().mark(5).coinbase(tx).mined().to(keeper), 0);
+            }
+            node = node.next().mined();
+            CHECKS.equal("height " + height, node.to(keeper), height == 18 ? 1 : 0);
+        }
+    }
+
+    private static void scripts() {
+        CHECKS.equal("an OUTPUT's of 1000", withTx(new Tx().in(OTHER, 0).out(1, Bytes.many(97, 1000))), 10);
+        CHECKS.equal("an OUTPUT's of 1001", withTx(new Tx().in(OTHER, 0).out(1, Bytes.many(97, 1001))), 9);
+        CHECKS.equal("an INPUT's of 1000", withTx(new Tx().in(OTHER, 0, Bytes.many(97, 1000), 0).out(1)), 10);
+        CHECKS.equal("an INPUT's of 1001", withTx(new Tx().in(OTHER, 0, Bytes.many(97, 1001), 0).out(1)), 9);
+        CHECKS.equal("a coinbase's OUTPUT's of 1001", draft().coinbase(draft().usualCoinbase(1, Bytes.many(97, 1001)))
+                .mined().to(new CoinKeeper()), 9);
+    }
+
+    private static int withOut(byte[] script) {
+        return draft().coinbase(draft().usualCoinbase(1, script)).mined().to(new CoinKeeper());
+    }
+
+    private static void sigs() {
+        CHECKS.equal("40 CHECKSIG", withOut(Bytes.many(172, 40)), 0);
+        CHECKS.equal("41 CHECKSIG", withOut(Bytes.many(172, 41)), 9);
+        CHECKS.equal("41 CHECKSIGVERIFY", withOut(Bytes.many(173, 41)), 9);
+        CHECKS.equal("2 CHECKMULTISIG", withOut(Bytes.of(81, 174, 81, 175)), 0);
+        CHECKS.equal("3 CHECKMULTISIG", withOut(Bytes.of(81, 174, 81, 175, 174)), 9);
+        CHECKS.equal("2 CHECKMULTISIG and one", withOut(Bytes.of(174, 175, 172)), 9);
+        CHECKS.equal("other ops", withOut(Bytes.join(Bytes.many(171, 50), Bytes.many(176, 50))), 0);
+        CHECKS.equal("pushed", withOut(Bytes.join(Bytes.of(60), Bytes.many(172, 100))), 0);
+        CHECKS.equal("pushed, and 41", withOut(Bytes.join(Bytes.of(60), Bytes.many(172, 101))), 9);
+        CHECKS.equal("pushed by 76", withOut(Bytes.join(Bytes.of(76, 200), Bytes.many(172, 240))), 0);
+        CHECKS.equal("pushed by 76, and 41", withOut(Bytes.join(Bytes.of(76, 200), Bytes.many(172, 241))), 9);
+        CHECKS.equal("a push beyond", withOut(Bytes.join(Bytes.of(75), Bytes.many(172, 74))), 0);
+        CHECKS.equal("behind 41 a push beyond", withOut(Bytes.join(Bytes.many(172, 41), Bytes.of(1))), 9);
+        CHECKS.equal("behind 40 a 76 alone", withOut(Bytes.join(Bytes.many(172, 40), Bytes.of(76))), 0);
+        CHECKS.equal("a 76 beyond", withOut(Bytes.join(Bytes.of(76, 255), Bytes.many(172, 254))), 0);
+        CHECKS.equal("77 is no push", withOut(Bytes.join(Bytes.of(77, 80), Bytes.many(172, 41))), 9);
+        CHECKS.equal("78 is no push", withOut(Bytes.join(Bytes.of(78, 80), Bytes.many(172, 41))), 9);
+        byte[] half = Bytes.many(172, 20);
+        CHECKS.equal("of two OUTPUTS", draft().tx(new Tx().in(OTHER, 0).out(1, half).out(1, half)).mined().to(new CoinKeeper()), 10);
+        CHECKS.equal("of OUTPUTS and INPUT", draft().tx(new Tx().in(OTHER, 0, Bytes.of(172), 0).out(1, half).out(1, half))
+                .mined().to(new CoinKeeper()), 9);
+        CHECKS.equal("of two TXS", draft().tx(new Tx().in(OTHER, 0).out(1, half)).tx(new Tx().in(OTHER, 1).out(1, Bytes.many(173, 21)))
+                .mined().to(new CoinKeeper()), 9);
+        CHECKS.equal("of the coinbase's INPUT, 40", withCoinbase(Bytes.join(Bytes.of(81), Bytes.many(172, 40))), 0);
+        CHECKS.equal("of the coinbase's INPUT, 41", withCoinbase(Bytes.join(Bytes.of(81), Bytes.many(172, 41))), 9);
+    }
+
+    private static int locked(long lock, long sequence, long time) {
+        return draft().time(time).tx(new Tx().in(OTHER, 0, Tx.NONE, Tx.LAST).in(OTHER, 1, Tx.NONE, sequence).out(1).lock(lock))
+                .mined().to(new CoinKeeper());
+    }
+
+    private static void locks() {
+        long time = 500000010;
+        CHECKS.equal("0", locked(0, 0, time), 10);
+        CHECKS.equal("the height", locked(1, 0, time), 9);
+        CHECKS.equal("the height, but final", locked(1, Tx.LAST, time), 10);
+        CHECKS.equal("nearly final", locked(1, Tx.LAST - 1, time), 9);
+        CHECKS.equal("the greatest height", locked(499999999, 0, time), 9);
+        CHECKS.equal("the least time", locked(500000000, 0, time), 10);
+        CHECKS.equal("a time below", locked(time - 1, 0, time), 10);
+        CHECKS.equal("the time", locked(time, 0, time), 9);
+        CHECKS.equal("the time, but final", locked(time, Tx.LAST, time), 10);
+        CHECKS.equal("a time without sign", locked(0x80000000L, 0, 0x80000001L), 10);
+        CHECKS.equal("a greater one", locked(0xFFFFFFFFL, 0, 0x80000001L), 9);
+        CHECKS.equal("a time below, with an early block", locked(500000000, 0, 1000001), 9);
+        CoinKeeper keeper = new CoinKeeper();
+        Node one = Node.genesis().next().mined();
+        CHECKS.equal("first", one.to(keeper), 0);
+        CHECKS.equal("below the height", one.next().tx(new Tx().in(OTHER, 0, Tx.NONE, 0).out(1).lock(1)).mined().to(keeper), 10);
+        CHECKS.equal("the height 2", one.next().tx(new Tx().in(OTHER, 0, Tx.NONE, 0).out(1).lock(2)).mined().to(keeper), 9);
+        Tx coinbase = new Tx().in(new byte[32], Tx.LAST, Bytes.of(82, 0), 0).out(1).lock(2);
+        CHECKS.equal("a coinbase, too", one.next().coinbase(coinbase).mined().to(keeper), 9);
+    }
+}
