@@ -437,9 +437,8 @@ public final class CoinKeeper {
         }
 
         /**
-         * The bits of the target of bits, times took, by PERIOD_TIME. Within 200 blocks no target falls below that of
-         * e = 26, so the product's two bytes behind the point of m are bytes of the whole product, too, and more are
-         * not needed for the three highest.
+         * The bits of the target of bits, times took, by PERIOD_TIME. Two bytes below those of m are enough to tell the
+         * three highest of the product; the target has them, as e does not fall below 26 within 200 blocks.
          */
         static int scaledBits(int bits, long took) {
             long m = ((bits & 0xFFFFFF) * took << 16) / PERIOD_TIME;
@@ -455,7 +454,10 @@ public final class CoinKeeper {
             return e > LIMIT_BITS >>> 24 ? LIMIT_BITS : e << 24 | (int) m;
         }
 
-        /** 2^256 / (m 256^k + 1): that of 2^256 / (m 256^k), one less where that has no rest. */
+        /**
+         * 2^256 / (m 256^k + 1): as 2^256 / (m 256^k), one less where that has no rest. Within 200 blocks no target
+         * falls below 2^204, so all work together stays below 2^63.
+         */
         static long workOf(int bits) {
             long m = bits & 0x7FFFFF;
             if (m == 0) {
@@ -512,7 +514,7 @@ public final class CoinKeeper {
         }
     }
 
-    /** What is unspent, and all the changes that led to it: each one made a coin unspent that was not, or the reverse. */
+    /** What is unspent, and all changes that led to it: each made a coin unspent that was not, or the reverse. */
     private static final class Ledger {
         private final ArrayList<Coin> unspent = new ArrayList<Coin>();
         private final ArrayList<Coin> changes = new ArrayList<Coin>();
@@ -588,7 +590,7 @@ public final class CoinKeeper {
         }
     }
 
-    /** Where the parts of a block are in its bytes. Each array ends with one entry that says where the last part ends. */
+    /** Where the parts of a block are in its bytes, and whether they are sound. */
     private static final class Layout {
         static final int TX_BYTES = 10;
         static final int IN_BYTES = 41;
@@ -602,6 +604,7 @@ public final class CoinKeeper {
 
         byte[] raw;
         int txs;
+        /** Of a TX: where it begins, its first input, its first output; the next entry says where they end. */
         final int[] txAt = new int[TXS + 1];
         final int[] firstIn = new int[TXS + 1];
         final int[] firstOut = new int[TXS + 1];
@@ -867,8 +870,8 @@ public final class CoinKeeper {
     }
 
     /**
-     * Runs scripts. All bytes that it needs are in one row, and a thing on a stack is a handle, a place in that row and
-     * a length, so that nothing is copied or made for it.
+     * Runs scripts; ops have the document's numbers. All bytes are in one row, and a thing on a stack is a handle, a
+     * place in that row and a length, so that nothing is copied or made for it.
      */
     private static final class Machine {
         static final int PUSH_MORE = 76;
@@ -943,7 +946,7 @@ public final class CoinKeeper {
             return height > 0 && isTrue(main[height - 1]);
         }
 
-        /** Runs a script to its end: whether it does not fail. Signatures are looked at here, to keep the calls flat. */
+        /** Runs a script to its end: whether it does not fail. */
         boolean run(int which) {
             otherHeight = 0;
             ops = 0;
@@ -971,6 +974,7 @@ public final class CoinKeeper {
                 } else if (op >= 99 && op <= 104 && op != 101 && op != 102) {
                     fine = branch(op);
                 } else if (ifsNotTaken == 0) {
+                    // Signatures are not left to perform, which keeps the calls flat.
                     fine = op == CHECKMULTISIG || op == CHECKMULTISIG + 1 ? checkMany(op)
                             : op == CHECKSIG || op == CHECKSIG + 1 ? checkOne(op) : perform(op);
                 }
@@ -1307,7 +1311,8 @@ public final class CoinKeeper {
         }
 
         private boolean within() {
-            if (height < 3 || !isNumber(main[height - 3]) || !isNumber(main[height - 2]) || !isNumber(main[height - 1])) {
+            if (height < 3 || !isNumber(main[height - 3]) || !isNumber(main[height - 2])
+                    || !isNumber(main[height - 1])) {
                 return false;
             }
             height -= 3;
@@ -1346,7 +1351,8 @@ public final class CoinKeeper {
             int sig = main[height - 2];
             int key = main[height - 1];
             height -= 2;
-            boolean good = hasMessage() && signatures.verify(data, MESSAGE, placeOf(key), lengthOf(key), placeOf(sig), lengthOf(sig));
+            boolean good = hasMessage() && signatures.verify(data, MESSAGE, placeOf(key), lengthOf(key),
+                    placeOf(sig), lengthOf(sig));
             push(good ? TRUE : FALSE);
             return op == CHECKSIG || verifyTop();
         }
@@ -1828,8 +1834,11 @@ public final class CoinKeeper {
         static final int LIMBS = 5;
         private static final int BITS = 52;
         private static final long MASK = 0xFFFFFFFFFFFFFL;
-        static final long[] ORDER = {0x25E8CD0364141L, 0xE6AF48A03BBFDL, 0xFFFFFFEBAAEDCL, 0xFFFFFFFFFFFFFL, 0xFFFFFFFFFFFFL};
-        static final long[] PRIME = {0xFFFFEFFFFFC2FL, 0xFFFFFFFFFFFFFL, 0xFFFFFFFFFFFFFL, 0xFFFFFFFFFFFFFL, 0xFFFFFFFFFFFFL};
+        /** The order of the curve's base, and p, modulo which the curve's points are. */
+        static final long[] ORDER = {
+            0x25E8CD0364141L, 0xE6AF48A03BBFDL, 0xFFFFFFEBAAEDCL, 0xFFFFFFFFFFFFFL, 0xFFFFFFFFFFFFL};
+        static final long[] PRIME = {
+            0xFFFFEFFFFFC2FL, 0xFFFFFFFFFFFFFL, 0xFFFFFFFFFFFFFL, 0xFFFFFFFFFFFFFL, 0xFFFFFFFFFFFFL};
 
         /** From at most 32 bytes, the highest first. */
         static void load(byte[] from, int at, int length, long[] to) {
@@ -1972,9 +1981,9 @@ public final class CoinKeeper {
     }
 
     /**
-     * Points of y^2 = x^3 + 7 modulo p = 2^256 - 2^32 - 977. A number is ten limbs of 26 bits, the lowest first, each of
-     * them with a sign and allowed to be some times greater: multiply takes factors whose greatest limbs have a product
-     * of at most 150 times 2^52, and answers limbs of (a little more than) 26 bits. The sizes named below are such times.
+     * Points of y^2 = x^3 + 7 modulo p = 2^256 - 2^32 - 977. A number is ten limbs of 26 bits, the lowest first, each
+     * with a sign and allowed to be some times greater, which is its size: multiply takes numbers whose sizes have a
+     * product of at most 150, so that no sum of ten products of limbs goes beyond a long, and answers one of size 1.
      */
     private static final class Curve {
         static final int LIMBS = 10;
@@ -1984,8 +1993,8 @@ public final class CoinKeeper {
         private static final long FOLD_LOW = 0x3D10;
         private static final long FOLD_HIGH = 0x400;
         /**
-         * How a root is made, four numbers a step: row [0] = (row [1])^(2^[2]) row [3]. Row 0 has the number itself, and
-         * the steps lead to its power of (p + 1) / 4, but for squaring twice at the end.
+         * How a root is made, four numbers a step: row [0] = (row [1])^(2^[2]) row [3]. Row 0 has the number itself,
+         * and the steps lead to its power of (p + 1) / 4, but for squaring twice at the end.
          */
         private static final byte[] ROOT_STEPS = {
             1, 0, 1, 0,
@@ -2174,7 +2183,7 @@ public final class CoinKeeper {
             return bits == 0;
         }
 
-        /** Makes the number 0 to p - 1, its limbs without sign. The first round brings it near 2^256, the second below. */
+        /** Makes the number 0 to p - 1, its limbs without sign. One round brings it near 2^256, the next below. */
         private static void settle(long[] number) {
             for (int round = 0; round < 2; round++) {
                 long over = number[LIMBS - 1] >> 22;
@@ -2202,7 +2211,7 @@ public final class CoinKeeper {
             }
         }
 
-        /** to = p q modulo p; to may be one of them. Written out, as nearly all the time of a signature is spent here. */
+        /** to = p q; to may be one of them. Written out, as nearly all the time of a signature is spent here. */
         private static void multiply(long[] p, long[] q, long[] to) {
             long a0 = p[0], a1 = p[1], a2 = p[2], a3 = p[3], a4 = p[4];
             long a5 = p[5], a6 = p[6], a7 = p[7], a8 = p[8], a9 = p[9];

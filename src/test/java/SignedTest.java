@@ -78,8 +78,8 @@ public final class SignedTest {
 
     /** A message and a signature for which the sum is ofBase times the base and ofKey times the key. */
     private static void sumOf(Signer signer, int ofBase, int ofKey) {
-        BigInteger[] key = Signer.times(signer.secret, Signer.G);
-        BigInteger[] sum = Signer.sum(Signer.times(BigInteger.valueOf(ofBase), Signer.G), Signer.times(BigInteger.valueOf(ofKey), key));
+        BigInteger[] sum = Signer.sum(Signer.times(BigInteger.valueOf(ofBase), Signer.G),
+                Signer.times(BigInteger.valueOf(ofKey), signer.point));
         BigInteger r = sum == null ? BigInteger.TEN : sum[0].mod(N);
         BigInteger s = r.multiply(BigInteger.valueOf(ofKey).modInverse(N)).mod(N);
         byte[] message = Signer.bytes(s.multiply(BigInteger.valueOf(ofBase)).mod(N), 32);

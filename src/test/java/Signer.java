@@ -10,6 +10,7 @@ public final class Signer {
     private static final BigInteger TWO = BigInteger.TWO;
 
     public final BigInteger secret;
+    public final BigInteger[] point;
 
     public Signer(long secret) {
         this(BigInteger.valueOf(secret));
@@ -17,6 +18,7 @@ public final class Signer {
 
     public Signer(BigInteger secret) {
         this.secret = secret.mod(N);
+        point = times(secret, G);
     }
 
     public static BigInteger[] sum(BigInteger[] a, BigInteger[] b) {
@@ -72,11 +74,11 @@ public final class Signer {
     }
 
     public byte[] shortKey() {
-        return shortKey(times(secret, G));
+        return shortKey(point);
     }
 
     public byte[] longKey() {
-        return longKey(times(secret, G));
+        return longKey(point);
     }
 
     /** r and s of a message, with the nonce k. */
