@@ -11,6 +11,7 @@ public final class BitsTest {
         }
         backwards();
         changing();
+        nearTheTarget();
         CHECKS.close();
     }
 
@@ -60,6 +61,22 @@ public final class BitsTest {
         }
         CHECKS.equal("a time below", keeper.tip(11), wanted(wanted(0x207FFFFF, 700), 1001050 - 1900000));
         CHECKS.equal("is a quarter", keeper.tip(11), 0x2007FFFF);
+    }
+
+    /** IDs just above and just below a target whose bytes are 5D, 55 and 54. */
+    private static void nearTheTarget() {
+        CoinKeeper keeper = new CoinKeeper();
+        Node tip = Node.genesis();
+        for (int height = 1; height <= 7; height++) {
+            tip = tip.next().time(tip.time + 500).mined();
+            CHECKS.equal("near: height " + height, tip.to(keeper), 0);
+        }
+        int bits = keeper.tip(11);
+        CHECKS.equal("near: bits", bits, 0x205D5554);
+        for (int near = 0; near <= 2; near++) {
+            CHECKS.equal("above, but for bytes " + near, tip.next().bits(bits).above().near(near).mined().to(keeper), 6);
+            CHECKS.equal("below, but for bytes " + near, tip.next().bits(bits).near(near).mark(near).mined().to(keeper), near == 0 ? 0 : 1);
+        }
     }
 
     private static void changing() {

@@ -45,7 +45,7 @@ public final class Node {
         if (height <= 16) {
             return Bytes.of(80 + height, 0);
         }
-        return height < 128 ? Bytes.of(1, height, 0) : Bytes.of(2, height & 255, height >> 8, 0);
+        return height < 128 ? Bytes.of(1, height, 5) : Bytes.of(2, height & 255, height >> 8, 5);
     }
 
     public static BigInteger target(int bits) {
@@ -72,6 +72,7 @@ public final class Node {
         private int bits = LIMIT_BITS;
         private int minedBits = LIMIT_BITS;
         private boolean above;
+        private int near;
         private byte[] root;
         private byte[] count;
         private byte[] behind = new byte[0];
@@ -112,6 +113,12 @@ public final class Node {
         /** Not enough work. */
         public Draft above() {
             above = true;
+            return this;
+        }
+
+        /** An ID that has the highest bytes, so many, of the target. */
+        public Draft near(int bytes) {
+            near = bytes;
             return this;
         }
 
@@ -186,6 +193,7 @@ public final class Node {
         }
 
         private byte[] worked(byte[] head) {
+            BigInteger target = target(minedBits);
             for (int nonce = 0;; nonce++) {
                 byte[] header = new Bytes().add(head).number(nonce, 4).made();
                 byte[] id = Bytes.hash(header);
@@ -193,7 +201,10 @@ public final class Node {
                 for (int i = 0; i < 32; i++) {
                     high[i] = id[31 - i];
                 }
-                if (new BigInteger(1, high).compareTo(target(minedBits)) > 0 == above) {
+                BigInteger number = new BigInteger(1, high);
+                int shift = 8 * ((minedBits >>> 24) - near);
+                if (number.compareTo(target) > 0 == above
+                        && (near == 0 || number.shiftRight(shift).equals(target.shiftRight(shift)))) {
                     return header;
                 }
             }

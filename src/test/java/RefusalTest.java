@@ -60,6 +60,13 @@ public final class RefusalTest {
                 CHECKS.equal(names[i] + " " + Bytes.text(wrong), answer(keeper, Bytes.join(before, wrong, behind)), 1);
             }
         }
+        Tx narrow = genesis.next().usualCoinbase(0, Bytes.many(97, 252));
+        byte[] fits = genesis.next().coinbase(narrow).mined().bytes;
+        byte[] unfit = Bytes.join(java.util.Arrays.copyOf(fits, 142), Bytes.of(253, 252, 0), java.util.Arrays.copyOfRange(fits, 143, fits.length));
+        CHECKS.equal("a COUNT of 252 in 3 bytes", answer(keeper, unfit), 1);
+        // A script of 252 bytes that are not there: what follows would be the rest of a TX.
+        byte[] cut = Bytes.join(java.util.Arrays.copyOf(usual, 122), Bytes.of(252), java.util.Arrays.copyOfRange(usual, 133, usual.length));
+        CHECKS.equal("a script that is not there", answer(keeper, cut), 1);
         Tx wide = genesis.next().usualCoinbase(0, Bytes.many(97, 253));
         CHECKS.equal("a COUNT of 253 in 3 bytes", genesis.next().coinbase(wide).mined().to(keeper), 0);
         CHECKS.equal("only the last one taken", keeper.count(0), 1);

@@ -57,6 +57,7 @@ public final class SoundTest {
     private static void inputs() {
         byte[] zeros = new byte[32];
         CHECKS.equal("an INPUT twice", withTx(new Tx().in(OTHER, 3).in(OTHER, 4).in(OTHER, 3).out(1)), 9);
+        CHECKS.equal("an INPUT twice, with two scripts", withTx(new Tx().in(OTHER, 3).in(OTHER, 3, Bytes.of(81, 81), 5).out(1)), 9);
         CHECKS.equal("two INPUTS of a TX", withTx(new Tx().in(OTHER, 3).in(OTHER, 4).out(1)), 10);
         CHECKS.equal("an INPUT twice, but of two TXS", draft().tx(new Tx().in(OTHER, 3).out(1)).tx(new Tx().in(OTHER, 3).out(2))
                 .mined().to(new CoinKeeper()), 10);
@@ -105,7 +106,7 @@ public final class SoundTest {
                 CHECKS.equal("18 in two bytes", node.next().coinbase(tx).mined().to(keeper), 9);
                 tx = new Tx().in(new byte[32], Tx.LAST, Bytes.of(1, 17), 0).out(1);
                 CHECKS.equal("17 for 18", node.next().coinbase(tx).mined().to(keeper), 9);
-                tx = new Tx().in(new byte[32], Tx.LAST, Bytes.of(1, 18), 0).out(1);
+                tx = new Tx().in(new byte[32], Tx.LAST, Bytes.of(1, 18), Tx.LAST).out(1);
                 CHECKS.equal("18 in 2 bytes of script", node.next().mark(5).coinbase(tx).mined().to(keeper), 0);
             }
             node = node.next().mined();
