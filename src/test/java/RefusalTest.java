@@ -67,6 +67,10 @@ public final class RefusalTest {
         // A script of 252 bytes that are not there: what follows would be the rest of a TX.
         byte[] cut = Bytes.join(java.util.Arrays.copyOf(usual, 122), Bytes.of(252), java.util.Arrays.copyOfRange(usual, 133, usual.length));
         CHECKS.equal("a script that is not there", answer(keeper, cut), 1);
+        byte[] gone = Bytes.join(java.util.Arrays.copyOf(usual, 142), Bytes.of(5), java.util.Arrays.copyOfRange(usual, 144, usual.length));
+        CHECKS.equal("an OUTPUT's script that is not there", answer(keeper, gone), 1);
+        gone[142] = 4;
+        CHECKS.equal("no locktime", answer(keeper, gone), 1);
         Tx wide = genesis.next().usualCoinbase(0, Bytes.many(97, 253));
         CHECKS.equal("a COUNT of 253 in 3 bytes", genesis.next().coinbase(wide).mined().to(keeper), 0);
         CHECKS.equal("only the last one taken", keeper.count(0), 1);

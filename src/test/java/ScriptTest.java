@@ -129,6 +129,10 @@ public final class ScriptTest {
         leaves("51 64 52 67 53 68", "03");
         leaves("00 64 52 67 53 68", "02");
         leaves("0180 63 52 68");
+        due(false, "", "51 63 52 67 53 68 00");
+        due(false, "", "51 64 52 67 53 68 00");
+        due(false, "", "00 63 52 67 53 67 54 68 00");
+        due(false, "", "00 63 00 63 67 67 68 68 00");
         leaves("51 63 52 67 53 67 54 68", "02", "04");
         leaves("00 63 52 67 53 67 54 68", "03");
         leaves("51 00 63 63 52 67 53 68 67 54 68", "01", "04");
@@ -243,6 +247,15 @@ public final class ScriptTest {
             fails("51 050000000000" + row[0]);
             fails("050000000000 51" + row[0]);
         }
+        leaves("53 00 9a", "");
+        leaves("53 51 9a", "01");
+        leaves("4f 51 9a", "01");
+        leaves("53 00 9b", "01");
+        leaves("00 51 9b", "01");
+        leaves("00 00 9b", "");
+        leaves("51 51 9f", "");
+        leaves("51 51 a0", "");
+        leaves("51 51 9e", "");
         leaves("51 020100 9c", "01");
         leaves("53 51 020100 9d", "03");
         fails("51 52 9d");
@@ -261,7 +274,35 @@ public final class ScriptTest {
         fails("51 51 050000000000 a5");
     }
 
+    /** How many times the letter a, and its RIPEMD160: at the ends of its chunks, too. */
+    private static final String[][] RIPEMD_OF_A = {
+            {"1", "0bdc9d2d256b3ee9daae347be6f4dc835a467ffe"},
+            {"54", "a57fa1577740fd73b6859dd20e090cdac4d2af36"},
+            {"55", "0d8a8c9063a48576a7c97e9f95253a6e53ff6765"},
+            {"56", "e72334b46c83cc70bef979e15453706c95b888be"},
+            {"57", "eed82d19d597ab275b550ff3d6e0bc2a75350388"},
+            {"63", "e640041293fe663b9bf3f8c21ffecac03819e6b2"},
+            {"64", "9dfb7d374ad924f3f88de96291c33e9abed53e32"},
+            {"65", "99724bb11811e7166af38f671b6a082d8ab4960b"},
+            {"118", "171e51ad7a3c4ec2adfcea4c5faaafa17e9f2c25"},
+            {"119", "23e398ff2bac815aa1bbb57ca2a669c841872919"},
+            {"120", "c476770a6dae31fcee8d25efe6559a05c8024595"},
+            {"127", "64f2d68b85f394e2e4f49009c4bd50224c2698ed"},
+            {"128", "8dfdfb32b2ed5cb41a73478b4fd60cc5b4648b15"},
+            {"183", "f3829dc2013a443eff65ed098b29232ce5f2b0b2"},
+            {"184", "52a7ad26b98c60e2f14e0863c1b58de525888b11"},
+            {"191", "9988abd47931894930899d34150a8597ed4cc562"},
+            {"192", "23d0a353342193c627f2989013faf82719fc881b"},
+            {"247", "5b4c669232b30567c0345192e2fcca0c44bd8b9a"},
+            {"248", "40313b35135a4893ac295662c5ae415f314958ec"},
+            {"255", "a9ca9944299c6de8cd955e51d910909f0ac8e203"}};
+
     private static void hashes() {
+        for (String[] row : RIPEMD_OF_A) {
+            int length = Integer.parseInt(row[0]);
+            due(true, Bytes.join(Bytes.of(76, length), Bytes.many('a', length)),
+                    Bytes.join(Bytes.of(166, 20), Bytes.hex(row[1]), Bytes.of(135)));
+        }
         leaves("00 a6", "9c1185a5c5e9fc54612808977ee8f548b2258d31");
         leaves("03616263 a6", "8eb208f7e05d987a9b044a8e98c6b087f15a0bfc");
         String alphabet = "6162636465666768696a6b6c6d6e6f707172737475767778797a";
@@ -359,6 +400,8 @@ public final class ScriptTest {
         due(true, Bytes.many(81, 200), Bytes.of(0x63, 0x51, 0x68));
         due(false, Bytes.many(81, 200), Bytes.of(81, 117));
         due(true, Bytes.many(81, 200), Bytes.of(117, 0, 99, 81, 81, 81, 104));
+        due(true, Bytes.many(81, 200), Bytes.join(Bytes.many(107, 200), Bytes.of(108)));
+        due(false, Bytes.many(81, 200), Bytes.many(107, 200));
         byte[] deep = Bytes.many(99, 100);
         due(true, Bytes.many(81, 101), Bytes.join(deep, Bytes.many(104, 100)));
         due(false, Bytes.many(81, 101), Bytes.join(deep, Bytes.many(104, 99)));

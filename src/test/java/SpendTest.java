@@ -131,7 +131,22 @@ public final class SpendTest {
             CHECKS.equal("signed", chain.with(tx.script(0, first).script(1, second)), 0);
         }
         ofHash(new Signer(1), one);
+        verified(one, two);
         many(one, two, new Signer(77));
+    }
+
+    /** CHECKSIGVERIFY and CHECKMULTISIGVERIFY leave nothing. */
+    private static void verified(Signer one, Signer two) {
+        byte[] lock = Bytes.join(Signer.pushed(one.shortKey()), Bytes.of(173, 81), Signer.pushed(two.shortKey()), Bytes.of(81, 175, 116, 145));
+        Chain chain = new Chain().grown(6, lock);
+        Tx tx = new Tx().in(chain.coinbase(1), 0).out(COIN);
+        byte[] message = tx.message(0, lock);
+        byte[] first = Signer.pushed(one.sig(message));
+        byte[] second = Signer.pushed(two.sig(message));
+        CHECKS.equal("in the wrong order", chain.with(tx.script(0, Bytes.join(Bytes.of(0), first, second))), 13);
+        CHECKS.equal("the first one wrong", chain.with(tx.script(0, Bytes.join(Bytes.of(0), second, second))), 13);
+        CHECKS.equal("the second one wrong", chain.with(tx.script(0, Bytes.join(Bytes.of(0), first, first))), 13);
+        CHECKS.equal("both right", chain.with(tx.script(0, Bytes.join(Bytes.of(0), second, first))), 0);
     }
 
     /** The hash is that of the first one's short key. */
