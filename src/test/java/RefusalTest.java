@@ -159,6 +159,13 @@ public final class RefusalTest {
                 }
             }
         }
+        Node.Draft full = genesis.next().empty();
+        for (int i = 0; i < 291; i++) {
+            full.tx(new Tx().version(i));
+        }
+        CHECKS.equal("as many TXS as can be", full.mined().bytes.length, 2993);
+        CHECKS.equal("as many TXS as can be, of nothing", full.mined().to(keeper), 9);
+        CHECKS.equal("another root of them", full.root(new byte[32]).mined().to(keeper), 8);
         Tx alone = new Tx().in(Bytes.many(7, 32), 0).out(1);
         Tx first = genesis.next().usualCoinbase(5, Tx.ONE);
         CHECKS.equal("the same, but not put together", genesis.next().coinbase(first).tx(alone)

@@ -106,6 +106,10 @@ public final class SignedTest {
             BigInteger r = Signer.times(k, Signer.G)[0].mod(N);
             BigInteger e = s.multiply(k).subtract(r.multiply(signer.secret)).mod(N);
             due("s is " + s, true, Signer.bytes(e, 32), signer.shortKey(), Signer.sig(r, s));
+            if (s.equals(BigInteger.ONE)) {
+                due("s with a zero", false, Signer.bytes(e, 32), signer.shortKey(), Signer.sig(r.toByteArray(), Bytes.of(0, 1)));
+                due("s with two zeros", false, Signer.bytes(e, 32), signer.shortKey(), Signer.sig(r.toByteArray(), Bytes.of(0, 0, 1)));
+            }
         }
     }
 
