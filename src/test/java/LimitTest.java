@@ -7,17 +7,34 @@ public final class LimitTest {
 
     public static void main(String[] args) {
         blocks();
+        subsidyIsCut();
         bytes();
         CHECKS.close();
     }
 
+    /** "IllegalStateException, ahead of all else, if 200 were TAKEN (without GENESIS)" */
     private static void blocks() {
         CoinKeeper keeper = new CoinKeeper();
         Node tip = Node.genesis();
         for (int height = 1; height <= 200; height++) {
+            if (height == 127) {
+                CHECKS.equal("127 in two bytes", pushing(tip, 2, 127, 0).to(keeper), 9);
+                CHECKS.equal("127 below 0", pushing(tip, 1, 255, 0).to(keeper), 9);
+            }
             if (height == 128) {
-                Tx wrong = new Tx().in(new byte[32], Tx.LAST, Bytes.of(1, 128, 0), 0).out(1);
-                CHECKS.equal("128 in one byte", tip.next().coinbase(wrong).mined().to(keeper), 9);
+                CHECKS.equal("128 in one byte", pushing(tip, 1, 128, 0).to(keeper), 9);
+                CHECKS.equal("128 in two bytes of three", pushing(tip, 2, 128).to(keeper), 9);
+                CHECKS.equal("128 below 0", pushing(tip, 2, 128, 128).to(keeper), 9);
+                CHECKS.equal("384", pushing(tip, 2, 128, 1).to(keeper), 9);
+                CHECKS.equal("128 in three bytes", pushing(tip, 3, 128, 0, 0).to(keeper), 9);
+                tip = pushing(tip, 2, 128, 0);
+                CHECKS.equal("128 alone", tip.to(keeper), 0);
+                continue;
+            }
+            if (height == 127 || height == 17) {
+                tip = pushing(tip, 1, height);
+                CHECKS.equal(height + " alone", tip.to(keeper), 0);
+                continue;
             }
             if (height == 200) {
                 Node.Draft draft = tip.next();
@@ -36,6 +53,29 @@ public final class LimitTest {
         CHECKS.equal("tip", keeper.tip(8), 200);
     }
 
+    private static Node pushing(Node on, int... script) {
+        return on.next().coinbase(new Tx().in(new byte[32], Tx.LAST, Bytes.of(script), 0).out(1)).mined();
+    }
+
+    /** "SUBSIDY is 5000000000 / 2^(HEIGHT / 20) (cut)": at 200 the half is cut. */
+    private static void subsidyIsCut() {
+        long[] values = {4882812, 4882813};
+        for (long value : values) {
+            CoinKeeper keeper = new CoinKeeper();
+            Node tip = Node.genesis();
+            for (int height = 1; height < 200; height++) {
+                tip = tip.next().mined();
+                tip.to(keeper);
+            }
+            CHECKS.equal("height", keeper.tip(8), 199);
+            Node.Draft draft = tip.next();
+            Node last = draft.coinbase(draft.usualCoinbase(value, Tx.ONE)).mined();
+            CHECKS.equal("SUBSIDY " + value, last.to(keeper), value == 4882812 ? 0 : 14);
+            CHECKS.thrown("200 were TAKEN, the BAD one, too", IllegalStateException.class, () -> keeper.submit());
+        }
+    }
+
+    /** "or the bytes of all TAKEN and of this one would be more than 100000 (THE ROW stays)" */
     private static void bytes() {
         CoinKeeper keeper = new CoinKeeper();
         Node tip = Node.genesis();

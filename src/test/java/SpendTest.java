@@ -1,4 +1,4 @@
-/** Promise 4: whether a block is valid (10 to 14), and what is unspent then (8, 9, 10). */
+/** Terms, 2 THE CHAIN, what is VALID (else 10 to 14): each sentence that names an edge, and both its sides. */
 public final class SpendTest {
     private static final Checks CHECKS = new Checks("SpendTest");
     private static final long COIN = 5000000000L;
@@ -11,6 +11,7 @@ public final class SpendTest {
         order();
         signatures();
         signedParts();
+        eachByItself();
         made();
         halvings();
         CHECKS.close();
@@ -52,6 +53,7 @@ public final class SpendTest {
         return new Chain().grown(6, Tx.ONE);
     }
 
+    /** "each INPUT is an OUTPUT that is unspent (of TXS before it in the BLOCK, the COINBASE with them, too) (10 ..)" */
     private static void unspent() {
         Tx first = new Tx().in(chain().coinbase(1), 0).out(COIN - 7).out(7);
         Tx second = new Tx().in(first, 1).out(3).out(4);
@@ -72,24 +74,66 @@ public final class SpendTest {
         CHECKS.equal("of a block before", chain.with(new Tx().in(first, 0).in(second, 1).in(second, 0).out(1)), 0);
     }
 
+    /** "(each by itself to its end)": what is open, or fails, in the INPUT's script is not mended by the OUTPUT's. */
+    private static void eachByItself() {
+        byte[][] locks = {Tx.ONE, Bytes.of(104, 81), Bytes.of(108), Bytes.of(117, 81), Tx.NONE, Bytes.of(135)};
+        byte[][] scripts = {Bytes.of(), Bytes.of(81), Bytes.of(0), Bytes.of(81, 99), Bytes.of(81, 107), Bytes.of(106), Bytes.of(2, 81), Bytes.of(81, 81)};
+        // Of each lock, whether the scripts open it.
+        int[][] due = {{1, 1, 1, 0, 1, 0, 0, 1}, {0, 0, 0, 0, 0, 0, 0, 0}, {0, 0, 0, 0, 0, 0, 0, 0}, {0, 1, 1, 0, 0, 0, 0, 1},
+            {0, 1, 0, 0, 0, 0, 0, 1}, {0, 0, 0, 0, 0, 0, 0, 1}};
+        for (int i = 0; i < locks.length; i++) {
+            for (int j = 0; j < scripts.length; j++) {
+                Chain chain = new Chain().grown(5, locks[i]);
+                String what = Bytes.text(scripts[j]) + " for " + Bytes.text(locks[i]);
+                CHECKS.equal(what, chain.with(new Tx().in(chain.coinbase(1).id(), 0, scripts[j], 0).out(1)), due[i][j] == 1 ? 0 : 13);
+            }
+        }
+        // Each INPUT has a stack of its own, and each must leave something true.
+        Chain chain = new Chain().grown(6, Tx.NONE);
+        Tx first = new Tx().in(chain.coinbase(1).id(), 0, Bytes.of(81, 81), 0).in(chain.coinbase(2).id(), 0, Tx.NONE, 0).out(1);
+        Tx second = new Tx().in(chain.coinbase(1).id(), 0, Tx.NONE, 0).in(chain.coinbase(2).id(), 0, Bytes.of(81), 0).out(1);
+        Tx both = new Tx().in(chain.coinbase(1).id(), 0, Bytes.of(81), 0).in(chain.coinbase(2).id(), 0, Bytes.of(81), 0).out(1);
+        CHECKS.equal("the first alone is true", chain.with(first), 13);
+        CHECKS.equal("the second alone is true", chain.with(second), 13);
+        CHECKS.equal("both are true", chain.with(both), 0);
+    }
+
+    /** "those of a COINBASE are of at least 5 HEIGHTS before (11)" */
     private static void ripe() {
         for (int blocks = 1; blocks <= 6; blocks++) {
             Chain chain = new Chain().grown(blocks, Tx.ONE);
             CHECKS.equal("a coinbase " + blocks + " before", chain.with(new Tx().in(chain.coinbase(1), 0).out(1)), blocks < 5 ? 11 : 0);
         }
+        // What a TX made of a coinbase is no coinbase's: it is spent at once, and so is what that made.
+        Chain old = new Chain().grown(5, Tx.ONE);
+        Tx first = new Tx().in(old.coinbase(1), 0).out(2).out(1);
+        Tx second = new Tx().in(first, 0).out(2);
+        CHECKS.equal("a TX's, at once", old.with(first, second, new Tx().in(second, 0).in(first, 1).out(3)), 0);
+        Chain mixed = new Chain().grown(6, Tx.ONE);
+        CHECKS.equal("one that is ripe, one that is not", mixed.with(new Tx().in(mixed.coinbase(1), 0).in(mixed.coinbase(3), 0).out(1)), 11);
+        CHECKS.equal("the other way round", mixed.with(new Tx().in(mixed.coinbase(3), 0).in(mixed.coinbase(1), 0).out(1)), 11);
+        CHECKS.equal("both are ripe", mixed.with(new Tx().in(mixed.coinbase(2), 0).in(mixed.coinbase(1), 0).out(1)), 0);
         Chain chain = chain();
         Node.Draft draft = chain.tip.next();
         Tx own = draft.usualCoinbase(5, Tx.ONE);
         CHECKS.equal("the block's own", draft.coinbase(own).tx(new Tx().in(own, 0).out(1)).mined().to(chain.keeper), 11);
     }
 
+    /** "what they have is not less than what its OUTPUTS have (12)" */
     private static void amounts() {
         CHECKS.equal("all of it", chain().with(new Tx().in(chain().coinbase(1), 0).out(COIN)), 0);
         CHECKS.equal("one more", chain().with(new Tx().in(chain().coinbase(1), 0).out(COIN + 1)), 12);
+        CHECKS.equal("one less", chain().with(new Tx().in(chain().coinbase(1), 0).out(COIN - 1)), 0);
+        CHECKS.equal("none of it", chain().with(new Tx().in(chain().coinbase(1), 0).out(0)), 0);
+        CHECKS.equal("the most there can be", chain().with(new Tx().in(chain().coinbase(1), 0).out(2100000000000000L)), 12);
+        Tx none = new Tx().in(chain().coinbase(1), 0).out(0).out(0);
+        CHECKS.equal("nothing of nothing", chain().with(none, new Tx().in(none, 0).in(none, 1).out(0)), 0);
+        CHECKS.equal("one of nothing", chain().with(none, new Tx().in(none, 0).in(none, 1).out(1)), 12);
         CHECKS.equal("two together", chain().with(new Tx().in(chain().coinbase(1), 0).in(chain().coinbase(2), 0).out(COIN).out(COIN)), 0);
         CHECKS.equal("two together and one", chain().with(new Tx().in(chain().coinbase(1), 0).in(chain().coinbase(2), 0).out(COIN).out(COIN + 1)), 12);
     }
 
+    /** "TX by TX ..: (10, of all INPUTS of the TX first)", then 11, 12, 13, "and then" 14 */
     private static void order() {
         Tx ripeOne = chain().coinbase(1);
         Tx unripe = chain().coinbase(6);
@@ -114,6 +158,7 @@ public final class SpendTest {
         CHECKS.equal("values", chain.keeper.count(3), 6 * COIN);
     }
 
+    /** "for each INPUT its script, then that of the OUTPUT on the same stack .. leave something true on top (13)": with SIGS. */
     private static void signatures() {
         Signer one = new Signer(12345);
         Signer two = new Signer(999);
@@ -211,6 +256,7 @@ public final class SpendTest {
         CHECKS.equal("a SIG that is none is false, not a failure", chain.with(new Tx().in(chain.coinbase(1).id(), 0, Bytes.of(0), 0).out(1)), 0);
     }
 
+    /** "the COINBASE's values are not above SUBSIDY and what was left over (14)" */
     private static void made() {
         Chain chain = chain();
         Tx pays = new Tx().in(chain.coinbase(1), 0).out(COIN - 10);
@@ -230,6 +276,7 @@ public final class SpendTest {
         CHECKS.equal("more in two", rich.coinbase(rich.usualCoinbase(COIN, Tx.ONE).out(1)).mined().to(new CoinKeeper()), 14);
     }
 
+    /** "SUBSIDY is 5000000000 / 2^(HEIGHT / 20) (cut)": at 19, 20, 21, 39, 40 and 41; LimitTest has 200. */
     private static void halvings() {
         CoinKeeper keeper = new CoinKeeper();
         Node tip = Node.genesis();
