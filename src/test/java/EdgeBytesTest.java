@@ -1,3 +1,4 @@
+import java.math.BigInteger;
 import java.util.ArrayList;
 import java.util.List;
 
@@ -18,6 +19,7 @@ public final class EdgeBytesTest {
         countThatEnds();
         hashAsNumber();
         partsOfTx();
+        txAtEndOfRow();
         idOfTx();
         partsOfBlock();
         rootOfNone();
@@ -189,6 +191,32 @@ public final class EdgeBytesTest {
             CHECKS.equal("a TX without its last bytes: " + less, answer(java.util.Arrays.copyOf(whole, whole.length - less)), 1);
         }
         CHECKS.equal("a whole TX", answer(whole), NOT_THERE);
+        byte[] rich = richTx().bytes();
+        whole = draft().tx(richTx()).mined().bytes;
+        for (int less = 1; less <= rich.length; less++) {
+            CHECKS.equal("a rich TX without its last bytes: " + less, answer(java.util.Arrays.copyOf(whole, whole.length - less)), 1);
+        }
+        CHECKS.equal("a whole rich TX", answer(whole), NOT_THERE);
+    }
+
+    /** A TX that has two of all, and COUNTS of both sizes. */
+    private static Tx richTx() {
+        return new Tx().in(NOWHERE, 0, Bytes.many(97, 50), 0).in(NOWHERE, 1, Bytes.many(97, 253), 0).out(1, Bytes.many(97, 50))
+                .out(2, Bytes.many(97, 253));
+    }
+
+    /** The same where THE ROW is full: 3000 bytes, of which the last are the first ones of a TX. */
+    private static void txAtEndOfRow() {
+        byte[] rich = richTx().bytes();
+        for (int there = 1; there <= rich.length; there++) {
+            Tx coinbase = new Tx().in(new byte[32], Tx.LAST, Bytes.of(81, 0), 0);
+            int left = 3000 - there - draft().coinbase(coinbase).mined().bytes.length;
+            coinbase.out(1, Bytes.many(97, 700)).out(1, Bytes.many(97, 700)).out(1, Bytes.many(97, left - 711 - 711 - 11));
+            byte[] block = draft().coinbase(coinbase).tx(richTx()).mined().bytes;
+            CHECKS.equal("a full row", block.length - rich.length + there, 3000);
+            int due = there == rich.length ? NOT_THERE : 1;
+            CHECKS.equal("of the TX " + there, answer(java.util.Arrays.copyOf(block, 3000)), due);
+        }
     }
 
     /** "Its ID is its HASH." */
@@ -310,10 +338,28 @@ public final class EdgeBytesTest {
             CHECKS.equal("a block of them " + i, ends[i].next(due[i]), 0);
             CHECKS.equal("they are the tip's " + i, ends[i].keeper.tip(10), due[i]);
         }
+        // Just where three bytes end, and where m has its highest bit.
+        long[][] spans = {{1580, 1616, 1226, 1278, 2488}, {1310, 1519, 1468, 1331, 2560}, {1576, 1385, 1201, 1582}, {1262, 1433, 1493, 1536}};
+        int[] edges = {0x1F7FFFFF, 0x20008000, 0x2000FFFF, 0x20010000};
+        for (int i = 0; i < spans.length; i++) {
+            Spans chain = Spans.begun();
+            for (long took : spans[i]) {
+                chain.by(took);
+            }
+            CHECKS.equal("at the edge " + i, chain.wanted(), edges[i]);
+            long before = chain.keeper.count(4);
+            CHECKS.equal("a block at the edge " + i, chain.next(edges[i]), 0);
+            CHECKS.equal("its WORK " + i, chain.keeper.count(4) - before, work(edges[i]));
+        }
         // A quarter of 1F7FFFC0 keeps its e; four times as much has one more.
         Spans least = Spans.begun().by(1200).by(1200).by(1200).by(1200);
         CHECKS.equal("a quarter", least.copied().by(1200).wanted(), 0x1F1FFFF0);
         CHECKS.equal("four times", least.copied().by(19200).wanted(), 0x2001FFFF);
+    }
+
+    private static long work(int bits) {
+        BigInteger one = BigInteger.ONE;
+        return one.shiftLeft(256).divide(Node.target(bits).add(one)).longValue();
     }
 
     /** "WORK of bits is 2^256 / (TARGET + 1) (cut)": of a TARGET of 2^253 it is 7, of one that is less 8. */

@@ -249,6 +249,13 @@ public final class EdgeChainTest {
             CHECKS.equal("above by byte " + near, above.to(spans.copied().keeper), 6);
             CHECKS.equal("below by byte " + near, below.to(spans.copied().keeper), 0);
         }
+        // IDS that were found by trying some billion: they begin with 7FFFFF01 and with 7FFFFEFF, the TARGET is 7FFFFF00..
+        Node above = Node.genesis().next().above().near(3).nonce(152247815).mined();
+        Node below = Node.genesis().next().near(2).nonce(1082912852).mined();
+        CHECKS.equal("bytes of the one above", Bytes.word(above.id, 7), 0x7FFFFF01);
+        CHECKS.equal("bytes of the one below", Bytes.word(below.id, 7), 0x7FFFFEFF);
+        CHECKS.equal("just above", above.to(new CoinKeeper()), 6);
+        CHECKS.equal("just below", below.to(new CoinKeeper()), 0);
     }
 
     private static long median(Node last, int most) {

@@ -19,6 +19,7 @@ public final class EdgeScriptTest {
         picked();
         sizes();
         numberResults();
+        thingsApart();
         numbersOfFourBytes();
         comparisons();
         withinRange();
@@ -154,6 +155,8 @@ public final class EdgeScriptTest {
             leaves(top + "63 52 67 53 68", "02");
             leaves(top + "64 52 67 53 68", "03");
         }
+        due(false, "", "63 51");
+        due(false, "", "64 51");
         due(false, "51", "67 51");
         due(false, "51", "68 51");
         due(false, "51 51", "63 68 67");
@@ -272,6 +275,19 @@ public final class EdgeScriptTest {
         leaves("0401000000 52 a3", "01");
         leaves("0401000080 52 a3", "81");
         leaves("0402000000 51 a4", "02");
+    }
+
+    /** Things on the stack are each by itself, though ops made them. */
+    private static void thingsApart() {
+        leaves("51 8b 52 8b 53 8b", "02", "03", "04");
+        leaves("02ff00 8b 0401000000 8b 4f 8c 00 8c", "0001", "02", "82", "81");
+        leaves("51 52 93 76 8b 76 8b", "03", "04", "05");
+        leaves("00 74 82 74", "", "01", "01", "03");
+        leaves("00 a6 00 a8", "9c1185a5c5e9fc54612808977ee8f548b2258d31", "e3b0c44298fc1c149afbf4c8996fb92427ae41e4649b934ca495991b7852b855");
+        leaves("00 a8 00 a6 51 8b", "e3b0c44298fc1c149afbf4c8996fb92427ae41e4649b934ca495991b7852b855",
+                "9c1185a5c5e9fc54612808977ee8f548b2258d31", "02");
+        leaves("51 8b 76 8f 7c 8f 8f", "82", "02");
+        leaves("53 76 a8 75 76 8b 6b 76 8b 8b 6c", "03", "05", "04");
     }
 
     private static String minus(String number) {

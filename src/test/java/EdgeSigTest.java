@@ -28,6 +28,7 @@ public final class EdgeSigTest {
         scriptThatIsSigned();
         byteAsFour();
         falseNotFailure();
+        oneThingMore();
         noTxNoSig();
         CHECKS.close();
     }
@@ -426,6 +427,28 @@ public final class EdgeSigTest {
             spends = new Tx().in(fresh.coins[1], 0).out(11);
             good = Signer.pushed(SIGNER.sig(spends.message(0, one)));
             CHECKS.equal("behind wrong " + i + " the right key", fresh.with(spends.script(0, Bytes.join(Bytes.of(0), good))), 0);
+        }
+    }
+
+    /** The one thing more of a CHECKMULTISIG is no SIG, though it looks like one. */
+    private static void oneThingMore() {
+        Signer other = new Signer(11);
+        byte[] keys = Bytes.join(Signer.pushed(other.shortKey()), Signer.pushed(SIGNER.shortKey()));
+        for (int sigs = 0; sigs <= 2; sigs++) {
+            byte[] lock = Bytes.join(Bytes.of(sigs == 0 ? 0 : 80 + sigs), keys, Bytes.of(82, 174));
+            Chain chain = new Chain(lock);
+            Tx tx = new Tx().in(chain.coins[1], 0).out(11);
+            byte[] mine = Signer.pushed(SIGNER.sig(tx.message(0, lock)));
+            byte[] its = Signer.pushed(other.sig(tx.message(0, lock)));
+            byte[] right = sigs == 0 ? Tx.NONE : sigs == 1 ? mine : Bytes.join(its, mine);
+            byte[] less = sigs == 0 ? Tx.NONE : sigs == 1 ? Tx.NONE : mine;
+            CHECKS.equal(sigs + ", a SIG in the place of the thing more", chain.with(tx.script(0, Bytes.join(its, less))), sigs == 0 ? 0 : 13);
+            chain = new Chain(lock);
+            CHECKS.equal(sigs + ", the thing more is a SIG", chain.with(tx.script(0, Bytes.join(its, right))), 0);
+            chain = new Chain(lock);
+            CHECKS.equal(sigs + ", the thing more is the other SIG", chain.with(tx.script(0, Bytes.join(mine, right))), 0);
+            chain = new Chain(lock);
+            CHECKS.equal(sigs + ", the thing more is nothing", chain.with(tx.script(0, Bytes.join(Bytes.of(0), right))), 0);
         }
     }
 

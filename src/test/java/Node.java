@@ -73,6 +73,7 @@ public final class Node {
         private int minedBits = LIMIT_BITS;
         private boolean above;
         private int near;
+        private int firstNonce;
         private byte[] root;
         private byte[] count;
         private byte[] behind = new byte[0];
@@ -119,6 +120,12 @@ public final class Node {
         /** An ID that has the highest bytes, so many, of the target. */
         public Draft near(int bytes) {
             near = bytes;
+            return this;
+        }
+
+        /** Where mining begins: near a nonce that was found before. */
+        public Draft nonce(int first) {
+            firstNonce = first;
             return this;
         }
 
@@ -194,7 +201,7 @@ public final class Node {
 
         private byte[] worked(byte[] head) {
             BigInteger target = target(minedBits);
-            for (int nonce = 0;; nonce++) {
+            for (int nonce = firstNonce;; nonce++) {
                 byte[] header = new Bytes().add(head).number(nonce, 4).made();
                 byte[] id = Bytes.hash(header);
                 byte[] high = new byte[32];
