@@ -23,6 +23,10 @@ public final class EdgeSigTest {
         fieldOfKey();
         leastNumbers();
         greatestNumbers();
+        signOfNumbers();
+        tooLongNumbers();
+        powersOfTwo();
+        sumsThatMeet();
         messageAboveOrder();
         partsThatAreSigned();
         scriptThatIsSigned();
@@ -209,6 +213,22 @@ public final class EdgeSigTest {
                 due("x " + i + " and p", false, Signer.bytes(r, 32), above, Signer.sig(r, r));
             }
         }
+        int seen = 0;
+        for (int i = 1; i < 30; i++) {
+            // A point whose y is i, as p is 7 modulo 9 a root of the third degree is a power.
+            BigInteger cube = BigInteger.valueOf(i * i - 7).mod(P);
+            BigInteger root = cube.modPow(P.add(BigInteger.TWO).divide(BigInteger.valueOf(9)), P);
+            if (root.pow(3).mod(P).equals(cube)) {
+                seen++;
+                BigInteger y = BigInteger.valueOf(i);
+                sumOfBaseAndKey("y " + i, new BigInteger[] {root, y});
+                sumOfBaseAndKey("y -" + i, new BigInteger[] {root, P.subtract(y)});
+                BigInteger r = Signer.sum(Signer.G, new BigInteger[] {root, y})[0].mod(N);
+                due("long, y " + i, true, Signer.bytes(r, 32), Signer.longKey(new BigInteger[] {root, y}), Signer.sig(r, r));
+                due("long, y " + i + " and p", false, Signer.bytes(r, 32), Signer.longKey(new BigInteger[] {root, y.add(P)}), Signer.sig(r, r));
+            }
+        }
+        CHECKS.that("points were seen", seen > 3);
         for (BigInteger none : new BigInteger[] {P, P.add(ONE), ONE.shiftLeft(256).subtract(ONE)}) {
             due("short " + none, false, MESSAGE, Bytes.join(Bytes.of(2), Signer.bytes(none, 32)), Signer.sig(ONE, ONE));
             due("long " + none, false, MESSAGE, Signer.longKey(new BigInteger[] {none, none}), Signer.sig(ONE, ONE));
@@ -265,6 +285,112 @@ public final class EdgeSigTest {
         BigInteger[] both = SIGNER.numbers(MESSAGE, BigInteger.valueOf(77));
         due("one s", true, MESSAGE, SIGNER.shortKey(), Signer.sig(both[0], both[1]));
         due("the other s", true, MESSAGE, SIGNER.shortKey(), Signer.sig(both[0], N.subtract(both[1])));
+    }
+
+    /** BIP 66: a number whose highest bit is set has a zero ahead of it, another one has none. */
+    private static void signOfNumbers() {
+        BigInteger half = ONE.shiftLeft(255);
+        BigInteger[] point = Signer.lifted(ONE);
+        BigInteger[] numbers = {half.subtract(ONE), half, half.add(ONE), N.subtract(ONE), N.subtract(ONE.shiftLeft(200)), ONE.shiftLeft(247),
+            BigInteger.valueOf(127), BigInteger.valueOf(128), BigInteger.valueOf(255), BigInteger.valueOf(256), BigInteger.valueOf(32767),
+            BigInteger.valueOf(32768)};
+        for (BigInteger s : numbers) {
+            twoWays("s", Signer.sig(ONE, s), keyFor(MESSAGE, point, s), Bytes.of(1), s, false);
+        }
+        for (BigInteger from : numbers) {
+            BigInteger r = from;
+            while (Signer.lifted(r) == null) {
+                r = r.testBit(0) ? r.subtract(ONE) : r.subtract(BigInteger.TWO).add(ONE);
+            }
+            twoWays("r", Signer.sig(r, ONE), keyFor(MESSAGE, Signer.lifted(r), ONE), Bytes.of(1), r, true);
+        }
+        BigInteger r = half;
+        while (Signer.lifted(r) == null) {
+            r = r.add(ONE);
+        }
+        twoWays("r", Signer.sig(r, ONE), keyFor(MESSAGE, Signer.lifted(r), ONE), Bytes.of(1), r, true);
+    }
+
+    private static void twoWays(String what, byte[] right, byte[] key, byte[] other, BigInteger number, boolean isR) {
+        byte[] bytes = number.toByteArray();
+        byte[] wrong = bytes[0] == 0 ? Arrays.copyOfRange(bytes, 1, bytes.length) : Bytes.join(Bytes.of(0), bytes);
+        due(what + " " + number, true, MESSAGE, key, right);
+        due(what + " " + number + " in the other way", false, MESSAGE, key, isR ? Signer.sig(wrong, other) : Signer.sig(other, wrong));
+    }
+
+    /** Numbers of more than 32 bytes whose lowest ones are right. */
+    private static void tooLongNumbers() {
+        BigInteger[] both = null;
+        for (int i = 0; both == null || both[0].bitLength() == 256 || both[1].bitLength() == 256; i++) {
+            both = SIGNER.numbers(MESSAGE, new BigInteger(1, Bytes.sha(Bytes.of(i, 8))).mod(N));
+        }
+        byte[] key = SIGNER.shortKey();
+        for (int bit : new int[] {256, 257, 260, 262, 263, 264, 270}) {
+            BigInteger more = ONE.shiftLeft(bit);
+            due("right", true, MESSAGE, key, Signer.sig(both[0], both[1]));
+            due("r and 2^" + bit, false, MESSAGE, key, Signer.sig(both[0].add(more), both[1]));
+            due("right again", true, MESSAGE, key, Signer.sig(both[0], both[1]));
+            due("s and 2^" + bit, false, MESSAGE, key, Signer.sig(both[0], both[1].add(more)));
+        }
+        BigInteger[] point = Signer.lifted(ONE);
+        byte[] small = keyFor(MESSAGE, point, BigInteger.TWO);
+        for (int bit = 248; bit <= 510; bit++) {
+            due("right, of few bytes", true, MESSAGE, small, Signer.sig(ONE, BigInteger.TWO));
+            due("s 2 and 2^" + bit, false, MESSAGE, small, Signer.sig(ONE, BigInteger.TWO.add(ONE.shiftLeft(bit))));
+            due("r 1 and 2^" + bit, false, MESSAGE, small, Signer.sig(ONE.add(ONE.shiftLeft(bit)), BigInteger.TWO));
+        }
+    }
+
+    /** s of each length, of one bit alone, and of all bits below. */
+    private static void powersOfTwo() {
+        // As r is 1, the key is s times the point less the message times the base.
+        BigInteger[] point = Signer.lifted(ONE);
+        BigInteger[] opposite = {ONE, P.subtract(point[1])};
+        BigInteger[] message = Signer.times(new BigInteger(1, MESSAGE).negate().mod(N), Signer.G);
+        BigInteger[] times = point;
+        for (int bit = 0; bit < 256; bit++) {
+            BigInteger s = ONE.shiftLeft(bit);
+            byte[] key = Signer.shortKey(Signer.sum(times, message));
+            due("s 2^" + bit, true, MESSAGE, key, Signer.sig(ONE, s));
+            if (bit > 0) {
+                BigInteger below = s.subtract(ONE);
+                byte[] other = Signer.shortKey(Signer.sum(Signer.sum(times, opposite), message));
+                due("s 2^" + bit + " less 1", true, MESSAGE, other, Signer.sig(ONE, below));
+                due("another s", false, MESSAGE, other, Signer.sig(ONE, s));
+            }
+            times = Signer.sum(times, times);
+        }
+    }
+
+    /** Sums in which a point meets itself or its opposite: keys that are some halves and quarters of the base. */
+    private static void sumsThatMeet() {
+        for (int part : new int[] {2, 4}) {
+            BigInteger fraction = BigInteger.valueOf(part).modInverse(N);
+            for (int times = -3; times <= 3; times += 2) {
+                Signer signer = new Signer(fraction.multiply(BigInteger.valueOf(times)).mod(N));
+                for (int ofBase = -3; ofBase <= 3; ofBase++) {
+                    for (int ofKey : new int[] {1, 2, 4, -1, -2, -4}) {
+                        sumOf(signer, ofBase, ofKey);
+                    }
+                }
+            }
+        }
+    }
+
+    /** A message and a SIG for which the sum is ofBase times the base and ofKey times the key. */
+    private static void sumOf(Signer signer, int ofBase, int ofKey) {
+        BigInteger base = BigInteger.valueOf(ofBase).mod(N);
+        BigInteger key = BigInteger.valueOf(ofKey).mod(N);
+        // The sum as a multiple of the base.
+        BigInteger k = base.add(key.multiply(signer.secret)).mod(N);
+        boolean some = k.signum() != 0;
+        BigInteger right = some ? Signer.times(k, Signer.G)[0].mod(N) : BigInteger.TEN;
+        for (BigInteger r : new BigInteger[] {right, right.add(ONE)}) {
+            BigInteger s = r.multiply(key.modInverse(N)).mod(N);
+            byte[] message = Signer.bytes(s.multiply(base).mod(N), 32);
+            String what = ofBase + " and " + ofKey + " times " + signer.secret + (r == right ? "" : ", another r");
+            due(what, some && r == right, message, signer.shortKey(), Signer.sig(r, s));
+        }
     }
 
     /** A HASH is any 32 bytes: 0, the order and around it, the greatest. */

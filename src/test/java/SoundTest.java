@@ -225,7 +225,6 @@ public final class SoundTest {
         CHECKS.equal("a push beyond in one, 41 in the next", withTx(new Tx().in(OTHER, 0).out(1, Bytes.of(75)).out(1, Bytes.join(forty, Bytes.of(172)))), 9);
         CHECKS.equal("a push beyond in one, 40 in the next", withTx(new Tx().in(OTHER, 0, Bytes.of(75), 0).out(1, Bytes.of(76)).out(1, forty)), 10);
         // A block that was refused leaves nothing that the next one counts.
-        CoinKeeper keeper = new CoinKeeper();
         Tx full = draft().usualCoinbase(1, forty);
         for (int i = 0; i < 20; i++) {
             full.out(0, forty);
@@ -234,9 +233,11 @@ public final class SoundTest {
         for (int i = 0; i < 20; i++) {
             wide.in(OTHER, i, forty, 0);
         }
-        CHECKS.equal("21 times 40", draft().coinbase(full).mined().to(keeper), 9);
-        CHECKS.equal("20 times 40 of INPUTS", draft().tx(wide).mined().to(keeper), 9);
-        CHECKS.equal("40 behind them", draft().coinbase(draft().usualCoinbase(1, forty)).mined().to(keeper), 0);
+        for (Node refused : new Node[] {draft().coinbase(full).mined(), draft().tx(wide).mined()}) {
+            CoinKeeper keeper = new CoinKeeper();
+            CHECKS.equal("20 times 40 and more", refused.to(keeper), 9);
+            CHECKS.equal("40 behind them", draft().coinbase(draft().usualCoinbase(1, forty)).mined().to(keeper), 0);
+        }
         byte[] half = Bytes.many(172, 20);
         CHECKS.equal("of two OUTPUTS", draft().tx(new Tx().in(OTHER, 0).out(1, half).out(1, half)).mined().to(new CoinKeeper()), 10);
         CHECKS.equal("of OUTPUTS and INPUT", draft().tx(new Tx().in(OTHER, 0, Bytes.of(172), 0).out(1, half).out(1, half))
