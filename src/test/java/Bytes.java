@@ -50,7 +50,7 @@ public final class Bytes {
     public static String text(byte[] bytes) {
         StringBuilder text = new StringBuilder();
         for (byte b : bytes) {
-            text.append(String.format("%02x", b & 255));
+            text.append(Character.forDigit(b >> 4 & 15, 16)).append(Character.forDigit(b & 15, 16));
         }
         return text.toString();
     }
