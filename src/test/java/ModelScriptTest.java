@@ -51,9 +51,14 @@ public final class ModelScriptTest {
         return random.nextInt(100) < percent;
     }
 
-    /** Whether the first script did not fail: then the second looks at all that it left. */
+    /** Whether the first script did not fail: then the second, if it is not by chance, too, looks at all that it left. */
     private boolean script() {
         byte[] first = drawn();
+        if (chance(20)) {
+            byte[] any = drawn();
+            twins.row(Bytes.join(first, any));
+            twins.script(first.length);
+        }
         List<byte[]> left = ModelScript.left(first);
         byte[] second = left == null ? Tx.ONE : lookingAt(left);
         boolean isLooked = second.length <= 1000 && (left == null || left.size() <= 199);

@@ -25,6 +25,8 @@ public final class ModelTest {
     /** How the scripts that were made are unlocked, by their bytes. */
     private final Map<String, Lock> locks = new HashMap<>();
     private final long pace;
+    /** When the blocks behind the GENESIS begin: locktimes and the sign of times begin to matter there. */
+    private final long epoch;
     private Node last = Node.genesis();
     private int marks;
 
@@ -33,6 +35,7 @@ public final class ModelTest {
         twins = new Twins(CHECKS, "run " + seed);
         nodes.add(last);
         pace = new long[] {150, 600, 1000}[seed % 3];
+        epoch = new long[] {1000000, 500000000, 0x80000000L - 5000, 1600000000}[seed % 4];
     }
 
     public static void main(String[] args) {
@@ -109,7 +112,7 @@ public final class ModelTest {
         Node.Draft draft = parent.next().bits(before.wanted()).mark(marks++);
         long median = before.median();
         long step = chance(70) ? 1 + random.nextInt((int) (2 * pace)) : 1;
-        long time = chance(3) ? median - random.nextInt(2) : Math.max(median + 1, parent.time + step);
+        long time = chance(3) ? median - random.nextInt(2) : Math.max(median + 1, Math.max(epoch, parent.time) + step);
         draft.time(time);
         Map<String, Model.Out> unspent = before.unspent();
         long fees = 0;
@@ -259,7 +262,8 @@ public final class ModelTest {
             return wild(random.nextInt(6));
         }
         byte[] message = tx.message(in, script);
-        Lock lock = locks.get(Bytes.text(script));
+        // The outputs that a fault adds have none.
+        Lock lock = locks.getOrDefault(Bytes.text(script), new Lock(0, SIGNERS[0], SIGNERS[0]));
         return switch (lock.kind) {
             case 0 -> chance(90) ? Tx.NONE : Bytes.of(0);
             case 1 -> sig(message, lock.first);
